@@ -14,6 +14,10 @@ public final class ModelTest {
     private int run;
     private int call;
     private String waiting = "";
+    private int mostServices;
+    private int seatsFrom;
+    private int sparseness;
+    private final int[] lastPut = new int[6];
 
     private ModelTest(Check check) {
         this.check = check;
@@ -58,6 +62,10 @@ public final class ModelTest {
         year = new OrchestraYear();
         model = new Model();
         waiting = "";
+        mostServices = new int[] {3, 8, 20, 40}[draw(4)];
+        sparseness = between(2, 5);
+        seatsFrom = number % 3 == 0 ? CALLS / 2 : 0;
+        java.util.Arrays.fill(lastPut, 0);
         int days = new int[] {3, 10, 30, 400}[draw(4)];
         int wildness = draw(3);
         for (call = 0; call < CALLS; call++) {
@@ -75,7 +83,7 @@ public final class ModelTest {
             case 0: callWork(); break;
             case 1: callPlayer(); break;
             case 2: callService(days); break;
-            default: callCall(); break;
+            default: callCall(); callCall(); break;
         }
     }
 
@@ -132,7 +140,7 @@ public final class ModelTest {
     private int aNeed() {
         int needs = 0;
         for (int i = 0; i < 6; i++) {
-            needs = 4 * needs + (draw(3) == 0 ? between(1, 3) : 0);
+            needs = 4 * needs + (draw(sparseness) == 0 ? between(1, 3) : 0);
         }
         return draw(50) == 0 ? near(0, 4095) : needs;
     }
@@ -167,6 +175,10 @@ public final class ModelTest {
     }
 
     private void callService(int days) {
+        if (model.count(2) >= mostServices && draw(10) != 0) {
+            callCall();
+            return;
+        }
         int a = near(0, 5);
         int b = near(0, days);
         int c = near(0, 23);
@@ -261,7 +273,7 @@ public final class ModelTest {
     private void callMay() {
         int a = aService();
         int b = aPlayer();
-        int c = near(0, 5);
+        int c = draw(2) == 0 ? near(0, 5) : model.playerTold(b, 0);
         same("may", year.may(a, b, c), model.may(a, b, c), a, b, c);
     }
 
@@ -269,11 +281,16 @@ public final class ModelTest {
         int a = aService();
         int b = aPlayer();
         int c = near(0, 5);
-        int d = near(0, 5);
+        int d = near(0, draw(3) == 0 ? 5 : 1);
         same("worth", year.worth(a, b, c, d), model.worth(a, b, c, d), a, b, c, d);
     }
 
     private void callSeat() {
+        if (call < seatsFrom) {
+            callCall();
+            callOrder();
+            return;
+        }
         int a = aService();
         same("seat", year.seat(a), model.seat(a), a);
         for (int i = 0; i < model.serviceTold(a, 5); i++) {
@@ -308,20 +325,24 @@ public final class ModelTest {
 
     private void callOrder() {
         int a = aService();
-        int b = near(0, 4);
-        same("waits", year.waits(a), model.waits(a), a);
-        same("order", year.order(a, b), model.order(a, b), a, b);
+        if (draw(2) == 0) {
+            same("waits", year.waits(a), model.waits(a), a);
+            return;
+        }
+        for (int i = -1; i < 6; i++) {
+            same("order", year.order(a, i), model.order(a, i), a, i);
+        }
     }
 
     private void callProgramme(int days) {
-        if (draw(3) != 0) {
+        if (draw(3) == 0) {
             int set = near(0, (1 << model.count(0)) - 1);
             same("price", year.price(set), model.price(set), set);
             return;
         }
         int a = near(0, days);
-        int b = near(0, 100);
-        int c = draw(2) == 0 ? near(0, 300) : b + draw(10);
+        int b = draw(4) == 0 ? near(0, 1080) : near(0, draw(2) == 0 ? 20 : 100);
+        int c = draw(2) == 0 ? near(0, 300) : b > 2000 ? b : b + draw(10);
         same("programme", year.programme(a, b, c), model.programme(a, b, c), a, b, c);
     }
 
@@ -329,13 +350,19 @@ public final class ModelTest {
         int a = near(0, 5);
         int b = near(0, 4);
         int c = b == 1 ? aService() : near(0, days);
-        same("put", year.put(a, b, c), model.put(a, b, c), a, b, c);
+        int answer = model.put(a, b, c);
+        same("put", year.put(a, b, c), answer, a, b, c);
         same("status", year.status(), model.status());
+        if (answer == 1) {
+            lastPut[a] = b;
+        }
     }
 
     private void callForge() {
         int a = near(0, 5);
-        int b = near(0, 8);
+        boolean fitting = a >= 0 && a < 6 && lastPut[a] > 0 && draw(3) != 0;
+        int b = fitting ? lastPut[a] - 1 : near(0, 8);
+        b = b == 2 && draw(2) == 0 ? 5 : b;
         int c = draw(3) == 0 ? near(-100, 100) : near(-2, 9);
         same("forge", year.forge(a, b, c), model.forge(a, b, c), a, b, c);
         same("status", year.status(), model.status());

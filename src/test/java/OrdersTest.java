@@ -31,11 +31,11 @@ public final class OrdersTest {
     }
 
     private static void order(Check check, OrchestraYear x, int wait, int... want) {
-        check.due("waits", x.waits(0), wait);
         for (int i = 0; i < want.length; i++) {
             check.due("order " + i, x.order(0, i), want[i]);
         }
         check.due("order behind", x.order(0, want.length), OrchestraYear.NONE);
+        check.due("waits", x.waits(0), wait);
     }
 
     /** A year with a service of works, told as minutes and needs. */
@@ -64,6 +64,12 @@ public final class OrdersTest {
         order(check, with(0, 10, 1, 10, 4, 10, 16, 10, 64, 10, 256), 0, 0, 1, 2, 3, 4);
         order(check, with(0, 10, 0, 10, 1, 10, 0, 10, 1, 10, 0), 0, 0, 1, 3, 2, 4);
         order(check, with(0, 10, 1, 20, 4, 5, 1, 7, 5), 0, 0, 2, 3, 1);
+        OrchestraYear x = with(0, 10, 0, 10, 0, 10, 0);
+        x.service(0, 0, 0, 1);
+        x.call(1, 2);
+        check.due("of one service", x.order(0, 0), 0);
+        check.due("then of the other", x.order(1, 0), 2);
+        check.due("then of the first again", x.order(0, 2), 2);
     }
 
     private static void schoolWaits(Check check) {

@@ -23,6 +23,11 @@ public final class PlayersTest {
         }
         check.due("an 11th player", x.player(0, 0, 1), OrchestraYear.FULL);
         check.due("BAD goes ahead of FULL", x.player(6, 0, 1), OrchestraYear.BAD);
+        check.due("the last one", x.playerTold(9, 1), 9);
+        for (int i = 10; i < 13; i++) {
+            check.due("none behind it", x.playerTold(i, 0), OrchestraYear.BAD);
+            check.due("none behind it", x.leave(i, 0, 0), OrchestraYear.BAD);
+        }
         check.due("count(1)", x.count(1), 10);
     }
 

@@ -5,6 +5,7 @@ public final class SeatingTest {
         badOnes(check);
         fewestGaps(check);
         leastPlayers(check);
+        leastByMoving(check);
         gapsBehind(check);
         greatSeating(check);
         seatedStays(check);
@@ -79,6 +80,22 @@ public final class SeatingTest {
         }
         y.leave(0, 3, 3);
         seating(check, y, Check.serviceFor(y, 0, 3, 0, 1, 2 + 4 + 2 * 1024), 1, 2, 3, 4, 5);
+    }
+
+    private static void leastByMoving(Check check) {
+        OrchestraYear x = new OrchestraYear();
+        x.player(0, 4, 1);
+        x.player(0, 0, 1);
+        x.player(1, 4, 1);
+        check.due("no chairs, no gaps", x.gaps(x.service(0, 9, 0, 1)), 0);
+        x.work(1, 0, 21);
+        x.service(0, 0, 0, 1);
+        x.call(1, 0);
+        check.due("0 is needed on chair 2", x.chair(1, 0, false), 1);
+        check.due("2 is needed on chair 1", x.chair(1, 1, false), 2);
+        check.due("so 0 sits there", x.chair(1, 2, false), 0);
+        x.player(1, 0, 1);
+        seating(check, x, 1, 0, 3, 2);
     }
 
     private static void gapsBehind(Check check) {

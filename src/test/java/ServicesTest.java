@@ -25,6 +25,12 @@ public final class ServicesTest {
         }
         check.due("a 41st service", x.service(0, 0, 0, 1), OrchestraYear.FULL);
         check.due("BAD goes ahead of FULL", x.service(0, 0, 0, 0), OrchestraYear.BAD);
+        check.due("the last one", x.serviceTold(39, 1), 39);
+        for (int i = 40; i < 43; i++) {
+            check.due("none behind it", x.serviceTold(i, 0), OrchestraYear.BAD);
+            check.due("none behind it", x.seat(i), OrchestraYear.BAD);
+            check.due("none behind it", x.put(0, 1, i), -1);
+        }
         check.due("count(2)", x.count(2), 40);
     }
 

@@ -112,6 +112,11 @@ public final class TraysTest {
         done(check, "pay of 1, as an int", x, x.forge(0, 2, 1), (int) (99999L * 99999L));
         refused(check, "pay of 2", x, x.forge(0, 2, 2), 12);
         refused(check, "pay of -1", x, x.forge(0, 2, -1), 12);
+        OrchestraYear y = new OrchestraYear();
+        y.player(0, 0, 1);
+        y.seat(Check.serviceFor(y, 0, 0, 0, 3, 1));
+        y.put(0, 3, 0);
+        done(check, "pay of 0", y, y.forge(0, 2, 0), 30);
         x.player(2, 0, 1);
         x.rise(0);
         done(check, "as it was when it was put", x, x.forge(0, 2, 1), (int) (99999L * 99999L));
@@ -133,6 +138,15 @@ public final class TraysTest {
         done(check, "no leave when it was put", x, x.forge(0, 3, 0), 0);
         done(check, "a leave", x, x.forge(0, 3, 1), 1);
         done(check, "no leave on the day", x, x.forge(1, 3, 1), 0);
+        x.put(2, 4, 400);
+        done(check, "a leave of 0", x, x.forge(2, 3, 0), 1);
+        done(check, "none of 1", x, x.forge(2, 3, 1), 0);
+        x.put(2, 4, 3);
+        x.put(1, 4, 0);
+        done(check, "put anew", x, x.forge(2, 3, 1), 1);
+        done(check, "put anew", x, x.forge(1, 3, 1), 0);
+        x.put(2, 4, 0);
+        done(check, "put anew where it was another", x, x.forge(2, 3, 1), 0);
         refused(check, "of 2", x, x.forge(0, 3, 2), 12);
         refused(check, "of -1", x, x.forge(0, 3, -1), 12);
     }

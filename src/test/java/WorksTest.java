@@ -24,6 +24,12 @@ public final class WorksTest {
         }
         check.due("a 13th work", x.work(1, 0, 0), OrchestraYear.FULL);
         check.due("BAD goes ahead of FULL", x.work(0, 0, 0), OrchestraYear.BAD);
+        check.due("the last one", x.workTold(11, 0), 11);
+        for (int i = 12; i < 15; i++) {
+            check.due("none behind it", x.workTold(i, 0), OrchestraYear.BAD);
+            check.due("none behind it", x.played(i, 0), OrchestraYear.BAD);
+            check.due("none behind it", x.score(i, 0, 0, 0), OrchestraYear.BAD);
+        }
         check.due("count(0)", x.count(0), 12);
     }
 
