@@ -429,7 +429,7 @@ public final class OrchestraYear {
                 filled.service = services[n];
                 break;
             case BYTES:
-                filled.bytes = texts[findInForce(n)].bytes;
+                putBytes(filled, n);
                 break;
             case PAYS:
                 putPays(filled);
@@ -450,9 +450,9 @@ public final class OrchestraYear {
         Tray forged = trays[tray];
         switch (what) {
             case 0: return forgeDay(forged, Math.floorMod(n, KIND_ABOVE.length));
-            case 1: return forgeByte(forged, n);
-            case 2: return forgePay(forged, n);
-            case 3: return forgeTruth(forged, n);
+            case 1: return forgePlace(forged, BYTES, n);
+            case 2: return forgePlace(forged, PAYS, n);
+            case 3: return forgePlace(forged, TRUTHS, n);
             case 4: return n < 0 ? hostRefuses(SIZE_BELOW) : hostAnswers(n);
             case 5: return forgeCopy(forged, n);
             case 6: return forgeLaid(forged);
@@ -680,6 +680,11 @@ public final class OrchestraYear {
         }
     }
 
+    private void putBytes(Tray tray, int day) {
+        tray.bytes = texts[findInForce(day)].bytes;
+        tray.size = tray.bytes.length;
+    }
+
     private void putPays(Tray tray) {
         for (int i = 0; i < playerCount; i++) {
             tray.pays[i] = sumDue(i, 0, LAST_DAY, PAY);
@@ -707,43 +712,17 @@ public final class OrchestraYear {
         return hostAnswers(tray.service.day);
     }
 
-    private int forgeByte(Tray tray, int n) {
+    private int forgePlace(Tray tray, int sort, int place) {
         if (tray.sort == NOTHING) {
             return hostRefuses(IS_NOTHING);
         }
-        if (tray.sort != BYTES || tray.bytes == null) {
+        if (tray.sort != sort) {
             return hostRefuses(OTHER_SORT);
         }
-        if (!isWithin(n, 0, tray.bytes.length - 1)) {
+        if (!isWithin(place, 0, tray.size - 1)) {
             return hostRefuses(PLACE_OUTSIDE);
         }
-        return hostAnswers(tray.bytes[n]);
-    }
-
-    private int forgePay(Tray tray, int n) {
-        if (tray.sort == NOTHING) {
-            return hostRefuses(IS_NOTHING);
-        }
-        if (tray.sort != PAYS) {
-            return hostRefuses(OTHER_SORT);
-        }
-        if (!isWithin(n, 0, tray.size - 1)) {
-            return hostRefuses(PLACE_OUTSIDE);
-        }
-        return hostAnswers((int) tray.pays[n]);
-    }
-
-    private int forgeTruth(Tray tray, int n) {
-        if (tray.sort == NOTHING) {
-            return hostRefuses(IS_NOTHING);
-        }
-        if (tray.sort != TRUTHS) {
-            return hostRefuses(OTHER_SORT);
-        }
-        if (!isWithin(n, 0, tray.size - 1)) {
-            return hostRefuses(PLACE_OUTSIDE);
-        }
-        return hostAnswers(tray.truths >> n & 1);
+        return hostAnswers(tray.elementAt(place));
     }
 
     /** The new row holds nothing but the copied PAYS, so their sum is the row's. */
@@ -1608,7 +1587,7 @@ public final class OrchestraYear {
         }
     }
 
-    /** Holds one thing, of the sort that is told. */
+    /** Holds one thing, of the sort that is told; bytes, pays and truths have a size. */
     private static final class Tray {
         private final long[] pays = new long[MOST_PLAYERS];
         private Service service = null;
@@ -1616,6 +1595,16 @@ public final class OrchestraYear {
         private int truths = 0;
         private int size = 0;
         private int sort = NOTHING;
+
+        int elementAt(int place) {
+            if (sort == BYTES) {
+                return bytes != null && isWithin(place, 0, bytes.length - 1) ? bytes[place] : 0;
+            }
+            if (sort == PAYS) {
+                return isWithin(place, 0, pays.length - 1) ? (int) pays[place] : 0;
+            }
+            return truths >> place & 1;
+        }
 
         boolean holdsKind(int kind) {
             return sort == A_SERVICE && service != null && service.isOfKind(kind);
