@@ -10,6 +10,8 @@ public final class ChairsTest {
         names(check);
         weekAndRest(check);
         expressions(check);
+        deepExpressions(check);
+        longTexts(check);
         check.finish();
     }
 
@@ -145,6 +147,33 @@ public final class ChairsTest {
         x.service(0, 0, 0, 1);
         x.player(0, 0, 1);
         check.due("value of " + expression, x.worth(0, 0, 0, 0), want);
+    }
+
+    private static void deepExpressions(Check check) {
+        String six = "0 or 7 and 3<2+2*(".repeat(6);
+        value(check, six + "0" + ")".repeat(6), 0);
+        value(check, six + "1" + ")".repeat(6), 1);
+        value(check, "9-(8-(7-(6-(5-(4-(3 - 1))))))", 9 - (8 - (7 - (6 - (5 - (4 - 2))))));
+    }
+
+    /** Texts as long as can be, one after another and behind faulty ones. */
+    private static void longTexts(Check check) {
+        OrchestraYear x = new OrchestraYear();
+        x.service(0, 0, 0, 1);
+        x.player(0, 0, 1);
+        for (int i = 1; i < 10; i++) {
+            Check.text(x, "count " + "1*(".repeat(6) + "1+1");
+            String text = "bar 0;".repeat(8) + "count " + i + "+1".repeat(60) + ";pay " + i + "-1".repeat(55) + ";     ";
+            check.due("bytes", Check.feed(x, text + " ".repeat(300 - text.length())), 300);
+            check.due("text " + i, x.text(), i);
+            x.force(i, 0);
+            check.due("its count", x.worth(0, 0, 0, 0), i + 60);
+            check.due("its pay", x.worth(0, 0, 0, 1), i - 55);
+            check.due("its last bar", x.worth(0, 0, 0, 9), 0);
+            check.due("no more", x.worth(0, 0, 0, 10), OrchestraYear.NO);
+        }
+        x.force(1, 0);
+        check.due("the first one is as it was", x.worth(0, 0, 0, 0), 61);
     }
 
     private static void expressions(Check check) {
