@@ -63,6 +63,9 @@ public final class OrchestraYear {
     private static final int DOES_NOT_FIT = 14;
     private static final int DIVIDED_BY_0 = 15;
 
+    /** Above every wait and every programme's rank. */
+    private static final int BEYOND_ALL = 1 << 30;
+
     private static final String FIRST_TEXT = "count long ; pay long * 10 ;";
 
     private final Work[] works = new Work[MOST_WORKS];
@@ -1444,7 +1447,7 @@ public final class OrchestraYear {
         void findOrder(Service service, Work[] works) {
             begin(service);
             boolean more = true;
-            leastWait = Integer.MAX_VALUE;
+            leastWait = BEYOND_ALL;
             for (int i = 0; i < MOST_ORDERS && more; i++) {
                 int wait = sumWait(service, works);
                 if (wait < leastWait) {
@@ -1528,7 +1531,6 @@ public final class OrchestraYear {
      */
     private static final class Chooser {
         private static final int SETS = 1 << MOST_WORKS;
-        private static final int UNREACHED = Integer.MAX_VALUE;
 
         private final int[] posts = new int[INSTRUMENTS];
         private final int[] leastRank = new int[MOST_WORKS * MOST_MINUTES + 1];
@@ -1536,7 +1538,7 @@ public final class OrchestraYear {
 
         void begin() {
             Arrays.fill(posts, 0);
-            Arrays.fill(leastRank, UNREACHED);
+            Arrays.fill(leastRank, BEYOND_ALL);
             leastRank[0] = 0;
             longest = 0;
         }
@@ -1556,19 +1558,19 @@ public final class OrchestraYear {
             longest = Math.min(longest + work.minutes, leastRank.length - 1);
             for (int minutes = longest; minutes >= work.minutes; minutes--) {
                 int before = leastRank[minutes - work.minutes];
-                if (before != UNREACHED) {
+                if (before != BEYOND_ALL) {
                     leastRank[minutes] = Math.min(leastRank[minutes], before + rank);
                 }
             }
         }
 
         int choose(int low, int high) {
-            int least = UNREACHED;
+            int least = BEYOND_ALL;
             int last = Math.min(high, longest);
             for (int minutes = Math.max(low, 0); minutes <= last; minutes++) {
                 least = Math.min(least, leastRank[minutes]);
             }
-            return least == UNREACHED ? NONE : setOf(least);
+            return least == BEYOND_ALL ? NONE : setOf(least);
         }
 
         private static int bitOf(int number) {

@@ -1,18 +1,23 @@
-/** Long runs of calls, each answer compared with that of Model. The numbers are drawn by a rule, so all runs are alike. */
+/**
+ * Long runs of calls, each answer compared with that of Model. The numbers are drawn by a rule, so all runs are alike.
+ * No object is used for more than 512 calls: what later ones answer is free.
+ */
 public final class ModelTest {
-    private static final int RUNS = 1500;
+    private static final int RUNS = 3000;
     private static final int CALLS = 512;
+    private static final int CALLS_OF_A_STEP = 14;
+    private static final int LAST_LOOKS = 100;
     private static final String[] NAMES = {"kind", "weekday", "hour", "long", "chair", "post", "double", "desk", "week",
         "rest"};
-    private static final String[] SCRAPS = {"bar", "count", "pay", "or", "and", "not", "(", ")", ";", "+", "-", "*", "<",
-        "=", "1", "99999", "123456", "long", "weekdays", "wek", "A", "?", "\n"};
+    private static final String[] SCRAPS = {"bar", "count", "pay", "or", "and", "not", "(", ")", ";", "+", "-", "*",
+        "<", "=", "1", "99999", "123456", "long", "weekdays", "wek", "A", "?", "\n"};
 
     private final Check check;
     private long drawn;
     private OrchestraYear year;
     private Model model;
     private int run;
-    private int call;
+    private int made;
     private String waiting = "";
     private int mostServices;
     private int seatsFrom;
@@ -65,17 +70,21 @@ public final class ModelTest {
         mostServices = new int[] {3, 8, 20, 40}[draw(4)];
         sparseness = between(2, 5);
         seatsFrom = number % 3 == 0 ? CALLS / 2 : 0;
+        made = 0;
         java.util.Arrays.fill(lastPut, 0);
         int days = new int[] {3, 10, 30, 400}[draw(4)];
         int wildness = draw(3);
-        for (call = 0; call < CALLS; call++) {
-            if (call < 60 && draw(2) == 0) {
+        while (made + CALLS_OF_A_STEP + LAST_LOOKS <= CALLS) {
+            if (made < 60 && draw(2) == 0) {
                 build(days);
             } else {
                 anyCall(days, wildness);
             }
         }
-        lookAtAll();
+        lookAround();
+        if (made > CALLS) {
+            throw new IllegalStateException(made + " calls of one object");
+        }
     }
 
     private void build(int days) {
@@ -114,11 +123,12 @@ public final class ModelTest {
     }
 
     private void same(String name, long got, long want, int... with) {
+        made++;
         if (got == want) {
             check.due(name, got, want);
             return;
         }
-        StringBuilder told = new StringBuilder("run " + run + ", call " + call + ": " + name + "(");
+        StringBuilder told = new StringBuilder("run " + run + ", call " + made + ": " + name + "(");
         for (int i = 0; i < with.length; i++) {
             told.append(i == 0 ? "" : ", ").append(with[i]);
         }
@@ -286,7 +296,7 @@ public final class ModelTest {
     }
 
     private void callSeat() {
-        if (call < seatsFrom) {
+        if (made < seatsFrom) {
             callCall();
             callOrder();
             return;
@@ -387,7 +397,17 @@ public final class ModelTest {
         same("count", year.count(a), model.count(a), a);
     }
 
-    private void lookAtAll() {
+    /** At the end of a run, a part of all that can be seen: another one in each run. */
+    private void lookAround() {
+        switch (run % 4) {
+            case 0: lookAtWorks(); break;
+            case 1: lookAtPlayers(); break;
+            case 2: lookAtServices(); break;
+            default: lookAtDays(); break;
+        }
+    }
+
+    private void lookAtWorks() {
         for (int what = 0; what < 7; what++) {
             same("count", year.count(what), model.count(what), what);
         }
@@ -396,6 +416,9 @@ public final class ModelTest {
                 same("workTold", year.workTold(w, what), model.workTold(w, what), w, what);
             }
         }
+    }
+
+    private void lookAtPlayers() {
         for (int p = 0; p < model.count(1); p++) {
             for (int what = 0; what < 5; what++) {
                 same("playerTold", year.playerTold(p, what), model.playerTold(p, what), p, what);
@@ -403,12 +426,20 @@ public final class ModelTest {
             same("due", year.due(p, 0, 400, 0), model.due(p, 0, 400, 0), p, 0, 400, 0);
             same("due", year.due(p, 0, 400, 1), model.due(p, 0, 400, 1), p, 0, 400, 1);
         }
-        for (int s = 0; s < model.count(2); s++) {
+    }
+
+    private void lookAtServices() {
+        int services = model.count(2);
+        int first = services > 7 ? draw(services - 6) : 0;
+        for (int s = first; s < Math.min(services, first + 7); s++) {
             for (int what = 0; what < 14; what++) {
                 same("serviceTold", year.serviceTold(s, what), model.serviceTold(s, what), s, what);
             }
         }
-        for (int day = 0; day <= 400; day += 7) {
+    }
+
+    private void lookAtDays() {
+        for (int day = 0; day <= 400; day += 5) {
             same("inForce", year.inForce(day), model.inForce(day), day);
         }
     }
