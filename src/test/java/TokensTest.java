@@ -23,6 +23,7 @@ public final class TokensTest {
         test.lowestBytesFirst();
         test.threeHundredBytes();
         test.theTapeIsEmptyThen();
+        test.noTextMoreHasRoom();
         test.everyByte();
         test.words();
         test.wordsTooLong();
@@ -109,6 +110,24 @@ public final class TokensTest {
         check.due("too early", x.text(), -15);
         check.due("a text", Check.text(x, "count 1;pay 1;"), 2);
         check.due("faults make no text", x.count(3), 3);
+    }
+
+    /** Promise 13: "FULL: no TEXT more has room (THE TAPE stays)", be it empty, faulty or a whole text. */
+    private void noTextMoreHasRoom() {
+        OrchestraYear x = new OrchestraYear();
+        for (int i = 1; i < 10; i++) {
+            check.due("a fault takes no room", Check.text(x, "count 1;pay 1"), -23);
+            check.due("text", Check.text(x, "count 1;pay 1;"), i);
+        }
+        String[] parts = {"", "count 1", ";pay 1;", "?"};
+        int bytes = 0;
+        for (String part : parts) {
+            bytes += part.length();
+            Check.feed(x, part);
+            check.due("no room", x.text(), OrchestraYear.FULL);
+            check.due("the tape stays", x.count(4), bytes);
+            check.due("ten texts", x.count(3), 10);
+        }
     }
 
     private static boolean isIn(String all, char c) {
