@@ -23,6 +23,7 @@ public final class SittingTest {
         test.oneChairAtMost();
         test.tenPlayersForTwelveChairs();
         test.movedAlong();
+        test.gapsMoveBehind();
         test.allSmallSeatings();
         test.manySeatings();
         test.notSeated();
@@ -201,7 +202,22 @@ public final class SittingTest {
         }
     }
 
-    /** THE SEATING of one chair of each instrument for many seven players, drawn by a rule, against all seatings. */
+    /** "(a GAP comes behind all)": three chairs of 3, three of 4 and one of 5, for five players who can all sit. */
+    private void gapsMoveBehind() {
+        int[] plays = {8 + 16, 8 + 32, 8 + 16, 8, 8};
+        int[] want = {0, 3, 4, 2, NONE, NONE, 1};
+        OrchestraYear x = new OrchestraYear();
+        for (int set : plays) {
+            x.player(3, set, 1);
+        }
+        int service = Check.serviceFor(x, 0, 0, 0, 1, 3 * 64 + 3 * 256 + 1024);
+        check.due("gaps", x.seat(service), 2);
+        for (int chair = 0; chair < want.length; chair++) {
+            check.due("chair " + chair, x.chair(service, chair, true), want[chair]);
+        }
+    }
+
+    /** THE SEATING of one chair of each instrument for many seven players, and of nine chairs for five, against all. */
     private void manySeatings() {
         long drawn = 1;
         for (int i = 0; i < 4000; i++) {
@@ -211,6 +227,8 @@ public final class SittingTest {
                 plays[player] = 1 << (drawn >>> 33) % 6 | 1 << (drawn >>> 40) % 6;
             }
             smallSeating(plays, new int[] {0, 1, 2, 3, 4, 5}, 1 + 4 + 16 + 64 + 256 + 1024);
+            int[] five = java.util.Arrays.copyOf(plays, 5);
+            smallSeating(five, new int[] {0, 0, 1, 1, 1, 2, 3, 3, 3}, 2 + 12 + 16 + 192);
         }
     }
 
